@@ -278,16 +278,6 @@ public final class ProofLine {
             over = over || from.over;
         }
 
-        void insert(int at, int token) {
-            if (at < 0 || at > size || size >= code.length) {
-                over = true;
-                return;
-            }
-            System.arraycopy(code, at, code, at + 1, size - at);
-            code[at] = token;
-            size++;
-        }
-
         int at(int i) {
             return i >= 0 && i < size ? code[i] : NOTHING;
         }
@@ -507,7 +497,7 @@ public final class ProofLine {
         }
 
         private boolean takeLetter(char sign, int place) {
-            if (sign < 'a' || sign > 'z') {
+            if (!isLetterSign(sign)) {
                 return fault.tell(SIGN, place);
             }
             letter = sign;
@@ -541,35 +531,22 @@ public final class ProofLine {
         }
 
         private boolean takeAtom(char sign, int place) {
-            if (sign >= 'a' && sign <= 'z') {
-                return takeBound(sign, place);
-            }
-            if (sign >= 'A' && sign < 'A' + NAME_LIMIT) {
-                if (!names.isTold(sign - 'A')) {
-                    return fault.tell(UNBOUND, place);
-                }
-                addAtom(NAME + sign - 'A', place);
-                return true;
-            }
             int token = tokenOf(sign);
             if (token == NOTHING) {
-                return fault.tell(SIGN, place);
+                return fault.tell(isLetterSign(sign) || isNameSign(sign) ? UNBOUND : SIGN, place);
             }
             addAtom(token, place);
             return true;
         }
 
-        private boolean takeBound(char sign, int place) {
-            for (int between = 0; between < boundCount; between++) {
-                if (bound[boundCount - 1 - between] == sign) {
-                    addAtom(LETTER + between, place);
-                    return true;
-                }
+        /** NOTHING for a letter or NAME that has nothing, and for a sign that is no ATOM. */
+        private int tokenOf(char sign) {
+            if (isLetterSign(sign)) {
+                return boundToken(sign);
             }
-            return fault.tell(UNBOUND, place);
-        }
-
-        private static int tokenOf(char sign) {
+            if (isNameSign(sign)) {
+                return names.isTold(sign - 'A') ? NAME + sign - 'A' : NOTHING;
+            }
             switch (sign) {
                 case '*':
                     return STAR;
@@ -582,6 +559,23 @@ public final class ProofLine {
                 default:
                     return NOTHING;
             }
+        }
+
+        private int boundToken(char sign) {
+            for (int between = 0; between < boundCount; between++) {
+                if (bound[boundCount - 1 - between] == sign) {
+                    return LETTER + between;
+                }
+            }
+            return NOTHING;
+        }
+
+        private static boolean isLetterSign(char sign) {
+            return sign >= 'a' && sign <= 'z';
+        }
+
+        private static boolean isNameSign(char sign) {
+            return sign >= 'A' && sign < 'A' + NAME_LIMIT;
         }
 
         private static boolean isDigit(char sign) {
@@ -616,10 +610,13 @@ public final class ProofLine {
 
         /** The row of ATOMS becomes the first part of a pair, which begins where the row does. */
         private void insertPair(int token) {
-            if (rowStart < tokens.size && tokens.size < TOKEN_LIMIT) {
-                System.arraycopy(places, rowStart, places, rowStart + 1, tokens.size - rowStart);
+            int length = tokens.size - rowStart;
+            if (length > 0 && tokens.size < TOKEN_LIMIT) {
+                System.arraycopy(tokens.code, rowStart, tokens.code, rowStart + 1, length);
+                System.arraycopy(places, rowStart, places, rowStart + 1, length);
+                tokens.code[rowStart] = token;
+                tokens.size++;
             }
-            tokens.insert(rowStart, token);
         }
 
         private void bind(char sign) {

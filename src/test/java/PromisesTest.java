@@ -239,6 +239,7 @@ public final class PromisesTest {
         due("three more", x.type(0x3E4E0020, 0, 0, 0, 0), 100);
         due("one more", refusesType(x, 0x20), true);
         due("one more, at another byte", refusesType(x, 0x20000000), true);
+        due("one more, a high one", refusesType(x, 0x80), true);
         due("none more", refusesType(x, 0), false);
         due("a hundred read", x.check(), 1);
         due("erase", x.erase(), 100);

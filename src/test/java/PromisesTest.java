@@ -6,11 +6,7 @@ import java.util.Set;
 import java.util.TreeSet;
 
 /** Goes through the promises of the document: prints each answer that is not due, and then ends with 1. */
-public final class PromisesTest {
-    private static int wrong = 0;
-
-    private final ProofLine it = new ProofLine();
-
+public final class PromisesTest extends Sheet {
     public static void main(String[] args) throws Exception {
         face();
         newObject();
@@ -39,120 +35,7 @@ public final class PromisesTest {
         output();
         count();
         deepLines();
-        if (wrong > 0) {
-            System.out.println(wrong + " answers are wrong");
-            System.exit(1);
-        }
-        System.out.println("all promises hold");
-    }
-
-    // ---- helpers
-
-    private static void due(String what, Object got, Object want) {
-        if (!got.equals(want)) {
-            wrong++;
-            System.out.println(what + ": got " + got + ", due is " + want);
-        }
-    }
-
-    private static int four(String text, int from) {
-        int number = 0;
-        for (int i = from; i < from + 4; i++) {
-            number = number << 8 | (i < text.length() ? text.charAt(i) : 0);
-        }
-        return number;
-    }
-
-    private int add(String text) {
-        int answer = it.type(0, 0, 0, 0, 0);
-        for (int i = 0; i < text.length(); i += 20) {
-            answer = it.type(four(text, i), four(text, i + 4), four(text, i + 8), four(text, i + 12), four(text, i + 16));
-        }
-        return answer;
-    }
-
-    private PromisesTest line(String text) {
-        it.erase();
-        due("length of " + text, add(text), text.length());
-        return this;
-    }
-
-    private String out() {
-        StringBuilder text = new StringBuilder();
-        for (int k = 0; k < it.count(1); k++) {
-            text.append(it.output(k));
-        }
-        return text.toString();
-    }
-
-    private PromisesTest tell(String name, String text) {
-        line(text);
-        due("define " + name + " as " + text, it.define(name.charAt(0) - 'A'), 0);
-        due("place after define", it.place(), -1);
-        return this;
-    }
-
-    private PromisesTest typed(String text, String want) {
-        line(text);
-        int answer = it.check();
-        due("type of " + text, answer < 0 ? "fault " + answer + " at " + it.place() : out(), want);
-        due("length answered for " + text, answer, want.length());
-        due("place after check of " + text, it.place(), -1);
-        return this;
-    }
-
-    private PromisesTest comes(String text, int steps, String want) {
-        line(text);
-        int answer = it.normal();
-        due("steps of " + text, answer, steps);
-        due("normal form of " + text, answer < 0 ? "fault " + answer + " at " + it.place() : out(), want);
-        due("place after normal of " + text, it.place(), -1);
-        return this;
-    }
-
-    /** The same fault from check, normal and define, none of which may change anything but place. */
-    private PromisesTest faulty(String text, int fault, int place) {
-        line(text);
-        String before = out();
-        int size = it.count(2);
-        int told = it.count(0);
-        due("check of " + text, it.check(), fault);
-        due("place for " + text, it.place(), place);
-        due("normal of " + text, it.normal(), fault);
-        due("place for " + text, it.place(), place);
-        due("define of " + text, it.define(7), fault);
-        due("place for " + text, it.place(), place);
-        due("output after " + text, out(), before);
-        due("size after " + text, it.count(2), size);
-        due("names after " + text, it.count(0), told);
-        return this;
-    }
-
-    private static boolean refusesType(ProofLine x, int a) {
-        try {
-            x.type(a, 0, 0, 0, 0);
-            return false;
-        } catch (IllegalStateException e) {
-            return true;
-        }
-    }
-
-    private static boolean refusesDefine(ProofLine x, int name) {
-        try {
-            x.define(name);
-            return false;
-        } catch (IllegalArgumentException e) {
-            return true;
-        }
-    }
-
-    private static boolean refusesSame(ProofLine x, int one, int other) {
-        try {
-            x.same(one, other);
-            return false;
-        } catch (IllegalArgumentException e) {
-            return true;
-        }
+        end("all promises hold");
     }
 
     // ---- the public face
@@ -248,7 +131,7 @@ public final class PromisesTest {
     // ---- terms: how THE LINE is read
 
     private static void readingSigns() {
-        PromisesTest t = new PromisesTest();
+        Sheet t = new Sheet();
         t.faulty("", -2, 0).faulty("   ", -2, 3).faulty("#", -2, 0).faulty("N#", -2, 1);
         t.faulty("I", -2, 0).faulty("M", -2, 0).faulty("Q", -2, 0).faulty("Z", -2, 0).faulty("N\t", -2, 1);
         t.faulty("()", -2, 1).faulty("(N", -2, 2).faulty("N)", -2, 1).faulty("(N))", -2, 3).faulty(")", -2, 0);
@@ -265,7 +148,7 @@ public final class PromisesTest {
     }
 
     private static void readingNumbers() {
-        PromisesTest t = new PromisesTest();
+        Sheet t = new Sheet();
         t.comes("0", 0, "0").comes("9", 0, "9").comes("10", 0, "10").comes("20", 0, "20").comes("05", 0, "5").comes("00", 0, "0");
         t.faulty("21", -2, 1).faulty("99", -2, 1).faulty("S 30", -2, 3).faulty(" 21", -2, 2).faulty("210", -2, 1);
         t.faulty("2 1", -5, 0).faulty("201", -5, 0).faulty("0021", -2, 3).faulty("0020", -5, 0).faulty("100", -5, 0);
@@ -275,7 +158,7 @@ public final class PromisesTest {
     }
 
     private static void readingLetters() {
-        PromisesTest t = new PromisesTest();
+        Sheet t = new Sheet();
         t.faulty("x", -3, 0).faulty("\\x:N.y", -3, 5).faulty("\\x:x.x", -3, 3).faulty("(\\x:N.x)x", -3, 8);
         t.faulty("\\x:(!x:N.N)>x.x", -3, 12).faulty("(!x:*.x)>x", -3, 9).faulty("A", -3, 0).faulty("H", -3, 0);
         t.faulty("x)", -3, 0).faulty(")x", -2, 0).faulty("N x #", -3, 2).faulty("N # x", -2, 2);
@@ -289,7 +172,7 @@ public final class PromisesTest {
     // ---- promise 4
 
     private static void define() {
-        PromisesTest t = new PromisesTest();
+        Sheet t = new Sheet();
         t.line("7");
         for (int name : new int[] {8, -1, 100, Integer.MIN_VALUE, Integer.MAX_VALUE}) {
             due("define " + name, refusesDefine(t.it, name), true);
@@ -305,7 +188,7 @@ public final class PromisesTest {
         due("taken before what is wrong", t.it.define(3), ProofLine.TAKEN);
         due("place of taken", t.it.place(), -1);
         t.comes("H", 1, "7").comes("S(S H)", 1, "9");
-        PromisesTest u = new PromisesTest();
+        Sheet u = new Sheet();
         u.faulty("H", -3, 0);
         u.line("B");
         due("not told of itself", u.it.define(1), ProofLine.UNBOUND);
@@ -315,7 +198,7 @@ public final class PromisesTest {
     }
 
     private static void defineFaultsChangeNothing() {
-        PromisesTest t = new PromisesTest();
+        Sheet t = new Sheet();
         t.typed("S", "N>N");
         t.line("0 0");
         due("define", t.it.define(0), ProofLine.KIND);
@@ -333,14 +216,14 @@ public final class PromisesTest {
     // ---- promise 5, and what is wrong with a type
 
     private static void typesOfAtoms() {
-        PromisesTest t = new PromisesTest();
+        Sheet t = new Sheet();
         t.typed("*", "#").typed("N", "*").typed("0", "N").typed("13", "N").typed("S", "N>N");
         t.typed("R", "!a:N>*.a 0>(!c:N.a c>a (S c))>!d:N.a d");
         t.tell("A", "*").typed("A", "#").tell("B", "\\x:N.S").typed("B", "N>N>N");
     }
 
     private static void typesOfProductsAndFunctions() {
-        PromisesTest t = new PromisesTest();
+        Sheet t = new Sheet();
         t.typed("N>N", "*").typed("N>*", "#").typed("!x:*.x", "*").typed("*>*", "#").typed("!x:*.x>N", "*");
         t.faulty("0>N", -4, 0).faulty("N>0", -4, 2).faulty("!x:S.N", -4, 3).faulty("!x:N.S x", -4, 5).faulty("!x:N.x", -4, 5);
         t.faulty("\\x:0.x", -4, 3).faulty("\\x:N.*", -4, 5).faulty("\\x:N.N>*", -4, 5).faulty("\\x:*.\\y:x.*", -4, 10);
@@ -352,7 +235,7 @@ public final class PromisesTest {
     }
 
     private static void typesOfApplications() {
-        PromisesTest t = new PromisesTest();
+        Sheet t = new Sheet();
         t.typed("S 0", "N").faulty("0 S", -5, 0).faulty("S N", -6, 2).faulty("S S", -6, 2).faulty("N 0", -5, 0).faulty("* *", -5, 0);
         t.faulty("S 0 0", -5, 0).faulty("S(0 0)", -5, 2).faulty("(\\x:*.x)*", -6, 8).faulty("(!x:N.N)0", -5, 0);
         t.typed("(\\x:*.\\y:x.y)(N>N)S 3", "N").faulty("(\\x:*.\\y:x.y)(N>N)3", -6, 18);
@@ -367,7 +250,7 @@ public final class PromisesTest {
     }
 
     private static void placesInBrackets() {
-        PromisesTest t = new PromisesTest();
+        Sheet t = new Sheet();
         t.faulty("(0) 0", -5, 0).faulty("((0)) 0", -5, 0).faulty("( (0) 0)", -5, 2).faulty("((0 0))", -5, 2);
         t.faulty("S (N)", -6, 2).faulty("S ((N))", -6, 2).faulty("S ( 0 0 )", -5, 4).faulty("S((0)0)", -5, 2);
         t.faulty("S 0 0 0", -5, 0).faulty("(S 0) 0", -5, 0).faulty("((S 0) 0)", -5, 1).faulty("  S  N", -6, 5);
@@ -376,21 +259,21 @@ public final class PromisesTest {
     }
 
     private static void firstFault() {
-        PromisesTest t = new PromisesTest();
+        Sheet t = new Sheet();
         t.faulty("0(0 0)", -5, 0).faulty("S(0 0)(S N)", -5, 2).faulty("S 0 N", -5, 0).faulty("S N N", -6, 2);
         t.faulty("(0>N)>0", -4, 1).faulty("\\x:0.*", -4, 3).faulty("\\x:S N.*", -6, 5).faulty("!x:N.S S", -6, 7);
         t.faulty("N>0>0", -4, 2).faulty("S(\\x:N.*)", -4, 7).faulty("N>0 0>0", -5, 2);
     }
 
     private static void checkKeepsRawTypes() {
-        PromisesTest t = new PromisesTest();
+        Sheet t = new Sheet();
         t.tell("A", "\\p:N>*.\\n:N.p n>p n").tell("B", "\\p:N>*.\\x:A p 3.x");
         t.typed("B", "!a:N>*.(a 3>a 3)>a 3>a 3").typed("\\p:N>*.B p(\\x:p(S 2).x)", "!a:N>*.a 3>a 3");
         t.faulty("\\p:N>*.B p(\\x:p 2.x)", -6, 10);
     }
 
     private static void fuelInTypes() {
-        PromisesTest t = new PromisesTest();
+        Sheet t = new Sheet();
         t.tell("A", "\\x:N.R(\\y:N.N)x(\\y:N.S)x").tell("B", "\\x:N.A(A(A(A x)))").tell("C", "\\p:N>*.p(B 1)>p(B 1)");
         t.line("\\p:N>*.\\x:p(B 9).x");
         due("type that is not brought to its normal form", t.it.define(3), 0);
@@ -419,7 +302,7 @@ public final class PromisesTest {
     // ---- promise 6
 
     private static void normal() {
-        PromisesTest t = new PromisesTest();
+        Sheet t = new Sheet();
         t.comes("(\\x:N.S(S x))3", 1, "5").comes("\\x:N.(\\y:N.y)x", 1, "\\a:N.a").comes("R", 0, "R").comes("R(\\x:N.N)", 0, "R (\\a:N.N)");
         t.comes("R(\\x:N.N)7(\\x:N.S)0", 1, "7").comes("R(\\x:N.N)7(\\x:N.S)1", 3, "8").comes("R(\\x:N.N>N)S(\\x:N.\\f:N>N.f)0 4", 1, "5");
         t.comes("\\n:N.R(\\x:N.N)7(\\x:N.S)(S n)", 2, "\\a:N.S (R (\\b:N.N) 7 (\\b:N.S) a)");
@@ -430,7 +313,7 @@ public final class PromisesTest {
     }
 
     private static void normalOrder() {
-        PromisesTest t = new PromisesTest();
+        Sheet t = new Sheet();
         // What is not used is never looked at: the FIRST STEP is that of the whole before its parts.
         t.comes("(\\x:N.0)((\\x:N.x)((\\x:N.x)1))", 1, "0").comes("(\\x:N.\\f:N>N>N.f x x)((\\x:N.x)1)", 3, "\\a:N>N>N.a 1 1");
         t.tell("A", "\\x:N.\\y:N.x").comes("A 1(A 2 3)", 3, "1");
@@ -438,16 +321,8 @@ public final class PromisesTest {
         t.comes("R(\\x:N.N)0(\\x:N.\\y:N.x)((\\x:N.S x)4)", 4, "4");
     }
 
-    private static String repeat(String text, int times) {
-        StringBuilder all = new StringBuilder();
-        for (int i = 0; i < times; i++) {
-            all.append(text);
-        }
-        return all.toString();
-    }
-
     private static void fuelEdges() {
-        PromisesTest t = new PromisesTest();
+        Sheet t = new Sheet();
         t.tell("A", "\\x:N.x").tell("B", "\\x:N.A(A(A(A(A x))))").tell("C", "\\x:N.B(B x)").tell("D", "\\x:N.C(C x)");
         // A: 2 steps; B: 2 + 5 * 2 = 12; C: 2 + 2 * 12 = 26; D: 2 + 2 * 26 = 54
         t.comes("A 3", 2, "3").comes("B 3", 12, "3").comes("C 3", 26, "3").comes("D 3", 54, "3");
@@ -464,17 +339,8 @@ public final class PromisesTest {
         t.faultyNormal("E");
     }
 
-    private PromisesTest faultyNormal(String text) {
-        line(text);
-        String before = out();
-        due("normal of " + text, it.normal(), ProofLine.FUEL);
-        due("place for " + text, it.place(), 0);
-        due("output after " + text, out(), before);
-        return this;
-    }
-
     private static void sizeEdges() {
-        PromisesTest t = new PromisesTest();
+        Sheet t = new Sheet();
         // Parts are none or two, so every SIZE is odd: 79 is the greatest that does, 81 the least that does not.
         t.comes("\\f:N>N>N.f 20 14", 0, "\\a:N>N>N.a 20 14");
         due("size 79", t.it.count(2), 79);
@@ -495,7 +361,7 @@ public final class PromisesTest {
     // ---- WRITTEN
 
     private static void written() {
-        PromisesTest t = new PromisesTest();
+        Sheet t = new Sheet();
         t.comes("(N>N)>N", 0, "(N>N)>N").comes("N>(N>N)", 0, "N>N>N").comes("(!x:*.x)>N", 0, "(!a:*.a)>N");
         t.comes("!x:*.x>x", 0, "!a:*.a>a").comes("!x:N.N", 0, "N>N").comes("\\x:N.N", 0, "\\a:N.N").comes("N>!x:*.x", 0, "N>!b:*.b");
         t.comes("\\x:*.\\y:x>*.!z:x.y z", 0, "\\a:*.\\b:a>*.!c:a.b c").comes("\\x:N>N>N.x(x 1 2)3", 0, "\\a:N>N>N.a (a 1 2) 3");
@@ -508,7 +374,7 @@ public final class PromisesTest {
     }
 
     private static void writtenLettersWrap() {
-        PromisesTest t = new PromisesTest();
+        Sheet t = new Sheet();
         t.comes(repeat("N>", 24) + "!x:*.!y:x.N>x", 0, repeat("N>", 24) + "!y:*.y>N>y");
         t.comes(repeat("N>", 25) + "!x:*.!y:*.x>y", 0, repeat("N>", 25) + "!z:*.!a:*.z>a");
         t.comes(repeat("N>", 26) + "!x:*.!y:*.x>y", 0, repeat("N>", 26) + "!a:*.!b:*.a>b");
@@ -517,7 +383,7 @@ public final class PromisesTest {
     // ---- promise 7
 
     private static void same() {
-        PromisesTest t = new PromisesTest();
+        Sheet t = new Sheet();
         due("none told", refusesSame(t.it, 0, 0), true);
         t.tell("A", "\\x:N.\\y:N.x").tell("B", "\\y:N.\\x:N.y").tell("C", "\\x:N.\\y:N.y").tell("D", "A 4 5").tell("E", "S 3");
         due("letters", t.it.same(0, 1), 1);
@@ -542,7 +408,7 @@ public final class PromisesTest {
     // ---- promise 8
 
     private static void place() {
-        PromisesTest t = new PromisesTest();
+        Sheet t = new Sheet();
         t.line("S N");
         due("fault", t.it.check(), ProofLine.MISMATCH);
         due("place", t.it.place(), 2);
@@ -571,7 +437,7 @@ public final class PromisesTest {
     // ---- promise 9
 
     private static void output() {
-        PromisesTest t = new PromisesTest();
+        Sheet t = new Sheet();
         t.typed("R", "!a:N>*.a 0>(!c:N.a c>a (S c))>!d:N.a d").typed("S", "N>N");
         due("first", t.it.output(0), 'N');
         due("last", t.it.output(2), 'N');
@@ -583,7 +449,7 @@ public final class PromisesTest {
     // ---- promise 10
 
     private static void count() {
-        PromisesTest t = new PromisesTest();
+        Sheet t = new Sheet();
         t.typed("S", "N>N");
         due("size of N>N", t.it.count(2), 3);
         due("characters of N>N", t.it.count(1), 3);
@@ -602,7 +468,7 @@ public final class PromisesTest {
     }
 
     private static void deepLines() {
-        PromisesTest t = new PromisesTest();
+        Sheet t = new Sheet();
         t.faulty(repeat("(", 100), -2, 100).comes(repeat("(", 49) + "15" + repeat(")", 49), 0, "15");
         t.faulty(repeat("\\a:", 33), -2, 99).faulty(repeat("N>", 50), -2, 100).faulty(repeat("S", 100), -6, 1);
         t.typed(repeat("N>", 49) + "N", "*").faulty(repeat("N>", 49) + "SS", -6, 99);

@@ -79,6 +79,7 @@ public final class BoundaryTest extends Sheet {
         twentyCharacters();
         byteZeroIsNone();
         moreThanAHundred();
+        moreOfEachByte();
         eraseEmptyAndFull();
         defineNoSuchName();
         defineTaken();
@@ -136,6 +137,7 @@ public final class BoundaryTest extends Sheet {
         t.comes("\\f:N>N>N.f 12", 0, "\\a:N>N>N.a 12").comes("\\f:N>N>N.f 1 2", 0, "\\a:N>N>N.a 1 2");
         t.comes("\\f:N>N>N.f 1    2", 0, "\\a:N>N>N.a 1 2").comes("\\f:N>N>N.f12", 0, "\\a:N>N>N.a 12");
         t.comes(" \\ f : N > N . f ( 1 ) ", 0, "\\a:N>N.a 1").comes("\\f:N>N.f(1)", 0, "\\a:N>N.a 1");
+        t = new Sheet();
         t.faulty("2 1", KIND, 0).faulty("21", SIGN, 1).faulty("2  1", KIND, 0).faulty("S\t0", SIGN, 1).faulty("S\n0", SIGN, 1);
         t.faulty("S\u00a00", SIGN, 1).faulty("S\u001f0", SIGN, 1).faulty("S!0", SIGN, 1);
     }
@@ -143,8 +145,8 @@ public final class BoundaryTest extends Sheet {
     // ---- "\ and a letter a .. z"
 
     private static void lettersFromAToZ() {
-        Sheet t = new Sheet();
         for (char letter = 'a'; letter <= 'z'; letter++) {
+            Sheet t = new Sheet();
             t.comes("\\" + letter + ":N." + letter, 0, "\\a:N.a");
             t.line("!" + letter + ":*." + letter);
             due("product of " + letter, t.it.check(), 1);
@@ -208,8 +210,10 @@ public final class BoundaryTest extends Sheet {
         t.comes("\\f:N>N>N.f 1", 0, "\\a:N>N>N.a 1").comes("\\f:N>N>N.f 20", 0, "\\a:N>N>N.a 20");
         t.comes("\\f:N>N>N.f 200", 0, "\\a:N>N>N.a 20 0").comes("\\f:N>N>N.f 209", 0, "\\a:N>N>N.a 20 9");
         t.comes("\\f:N>N>N.f 1020", 0, "\\a:N>N>N.a 10 20").comes("\\f:N>N>N.f 0000", 0, "\\a:N>N>N.a 0 0");
+        t = new Sheet();
         t.comes("\\f:N>N>N>N.f 10101", 0, "\\a:N>N>N>N.a 10 10 1").comes("\\f:N>N>N.f 012", 0, "\\a:N>N>N.a 1 2");
         t.comes("\\f:N>N>N.f 1 12", 0, "\\a:N>N>N.a 1 12").comes("\\f:N>N>N.f 1(2)", 0, "\\a:N>N>N.a 1 2");
+        t = new Sheet();
         t.faultyNormal("\\f:N>N>N.f 2020");
         t.faultyBehind("\\f:N>N>N.f 202", "1", SIGN).faultyBehind("\\f:N>N>N.f 2", "10", SIGN).faultyBehind("\\f:N>N>N.f 012", "1", SIGN);
         t.faulty("100", KIND, 0).faulty("1000", KIND, 0).faulty("999", SIGN, 1);
@@ -346,6 +350,21 @@ public final class BoundaryTest extends Sheet {
         t.comes("R(\\x:N.N)0(\\x:N.S)", 0, "R (\\a:N.N) 0 (\\a:N.S)").comes("R(\\x:N.N)0(\\x:N.S)0", 1, "0");
         t.comes("R(\\x:N.N>N)S(\\x:N.\\f:N>N.f)0", 1, "S").comes("R(\\x:N.N>N)S(\\x:N.\\f:N>N.f)0 0", 1, "1");
         t.comes("\\f:N>(N>N)>N.f 0(R(\\x:N.N)0(\\x:N.S))", 0, "\\a:N>(N>N)>N.a 0 (R (\\b:N.N) 0 (\\b:N.S))");
+        recursionThatIsGiven();
+    }
+
+    /** R and P, z, f, 0 stand side by side, but not all of them belong to R. */
+    private static void recursionThatIsGiven() {
+        Sheet t = new Sheet();
+        t.comes("\\g:(N>N)>N>N.g(R(\\x:N.N)0(\\x:N.S))0", 0, "\\a:(N>N)>N>N.a (R (\\b:N.N) 0 (\\b:N.S)) 0");
+        t.comes("\\g:((N>N>N)>N>N)>(N>N>N)>N>N.g(R(\\x:N.N)0)(\\x:N.S)0", 0,
+            "\\a:((N>N>N)>N>N)>(N>N>N)>N>N.a (R (\\b:N.N) 0) (\\b:N.S) 0");
+        t = new Sheet();
+        t.comes("\\g:(N>(N>N>N)>N>N)>N>(N>N>N)>N>N.g(R(\\x:N.N))0(\\x:N.S)0", 0,
+            "\\a:(N>(N>N>N)>N>N)>N>(N>N>N)>N>N.a (R (\\b:N.N)) 0 (\\b:N.S) 0");
+        t.tell("A", "!p:N>*.p 0>(!n:N.p n>p(S n))>!n:N.p n");
+        t.comes("\\g:A>(N>*)>N>(N>N>N)>N>N.g R(\\x:N.N)0(\\x:N.S)0", 1,
+            "\\a:(!a:N>*.a 0>(!c:N.a c>a (S c))>!d:N.a d)>(N>*)>N>(N>N>N)>N>N.a R (\\b:N.N) 0 (\\b:N.S) 0");
     }
 
     // ---- "The FIRST one: in a TERM itself before its parts, in the parts from left to right."
@@ -459,6 +478,7 @@ public final class BoundaryTest extends Sheet {
         t.typed("\\p:N>*.\\x:p 10.\\f:p(S 9)>N.f x", "!a:N>*.a 10>(a 10>N)>N").faulty("\\p:N>*.\\x:p 20.\\f:p(S 20)>N.f x", MISMATCH, 30);
         t.tell("A", "N").tell("B", "\\x:*.x").typed("\\x:A.S x", "N>N").typed("\\x:B A.S x", "N>N").typed("\\f:A>N.\\x:B N.f x", "(N>N)>N>N");
         t.faulty("\\f:A>N.\\x:B(A>A).f x", MISMATCH, 19).faulty("S N(0 0)", MISMATCH, 2).faulty("S(0 0)", KIND, 2).faulty("R(\\x:N.N)N", MISMATCH, 9);
+        t = new Sheet();
         t.faulty("R S", MISMATCH, 2).typed("R(\\x:N.N)0(\\x:N.S)", "N>N").faulty("R(\\x:N.N)0 S", MISMATCH, 11).faulty("R(\\x:N.N)0(\\x:N.S)N", MISMATCH, 18);
     }
 
@@ -505,6 +525,7 @@ public final class BoundaryTest extends Sheet {
         String dear = "\\p:N>*.\\x:p(A E).";
         t.faultyBehind(dear, "x>N", FUEL).faultyBehind(dear + "N>", "x", FUEL).faultyBehind(dear + "\\y:", "x.0", FUEL);
         t.faultyBehind(dear + "!y:N.", "x", FUEL).faultyBehind(dear, "x 0", FUEL).faultyBehind(dear + "S", "(x)", FUEL).faultyBehind(dear + "S ", "x", FUEL);
+        t.faultyBehind(dear + "S(", "x 0)", FUEL).faultyBehind(dear + "S(", "(x)0)", FUEL).faultyBehind(dear + "(", "x>N)", FUEL);
         // What is applied is looked at before what is given, and each before what hangs on it.
         t.faultyBehind(dear, "x(0 0)", FUEL).faultyBehind(dear, "0 x", KIND).faultyBehind(dear + "S ", "S x", MISMATCH);
         Sheet u = dear();
@@ -543,11 +564,13 @@ public final class BoundaryTest extends Sheet {
     // ---- "b for those in that of one, and so on, behind z again a"
 
     private static void lettersBehindZ() {
-        Sheet t = new Sheet();
+        Sheet t;
         for (int around = 23; around <= 28; around++) {
+            t = new Sheet();
             String letter = "" + "abcdefghijklmnopqrstuvwxyzabcdef".charAt(around);
             t.comes(repeat("N>", around) + "!x:*.x", 0, repeat("N>", around) + "!" + letter + ":*." + letter);
         }
+        t = new Sheet();
         t.comes("!x:*." + repeat("N>", 24) + "!y:*.x>y", 0, "!a:*." + repeat("N>", 24) + "!z:*.a>z");
         t.comes("!x:*." + repeat("N>", 25) + "!y:*.x>y", 0, "!a:*." + repeat("N>", 25) + "!a:*.a>a");
         t.comes("!x:*." + repeat("N>", 26) + "!y:*.x>y", 0, "!a:*." + repeat("N>", 26) + "!b:*.a>b");
@@ -556,14 +579,16 @@ public final class BoundaryTest extends Sheet {
     }
 
     private static void lettersOfFunctionsBehindZ() {
-        Sheet t = new Sheet();
-        t.tell("A", repeat("\\a:N.", 12) + "\\x:N.x").tell("B", repeat("\\a:N.", 12) + "A");
         StringBuilder round = new StringBuilder();
         for (char letter = 'a'; letter <= 'x'; letter++) {
             round.append('\\').append(letter).append(":N.");
         }
-        t.comes("B", 2, round + "\\y:N.y").comes("\\n:N.B", 2, round + "\\y:N.\\z:N.z").comes("\\n:N.\\n:N.B", 2, round + "\\y:N.\\z:N.\\a:N.a");
-        t.comes("\\n:N.\\m:N.\\n:N.B", 2, round + "\\y:N.\\z:N.\\a:N.\\b:N.b");
+        String[] more = {"", "\\n:N.", "\\n:N.\\n:N.", "\\n:N.\\m:N.\\n:N."};
+        String[] last = {"\\y:N.y", "\\y:N.\\z:N.z", "\\y:N.\\z:N.\\a:N.a", "\\y:N.\\z:N.\\a:N.\\b:N.b"};
+        for (int i = 0; i < more.length; i++) {
+            Sheet t = new Sheet();
+            t.tell("A", repeat("\\a:N.", 12) + "\\x:N.x").tell("B", repeat("\\a:N.", 12) + "A").comes(more[i] + "B", 2, round + last[i]);
+        }
     }
 
     // ---- "a PRODUCT whose letter is not used is A>B"
@@ -582,6 +607,7 @@ public final class BoundaryTest extends Sheet {
         t.comes("(N)>(N)", 0, "N>N").comes("(N>N)>N", 0, "(N>N)>N").comes("N>(N>N)", 0, "N>N>N").comes("\\p:N>*.(p 0)>(p 1)", 0, "\\a:N>*.a 0>a 1");
         t.comes("(!x:*.x)>N", 0, "(!a:*.a)>N").comes("\\f:N>N.f(0)", 0, "\\a:N>N.a 0").comes("\\f:N>N.f(f 0)", 0, "\\a:N>N.a (a 0)").comes("\\f:N>N>N.(f 0)1", 0, "\\a:N>N>N.a 0 1");
         t.comes("\\f:(N>N)>N.f(\\x:N.x)", 0, "\\a:(N>N)>N.a (\\b:N.b)").comes("\\f:*>N.f(N>N)", 0, "\\a:*>N.a (N>N)").comes("\\f:*>N.f(!x:*.x)", 0, "\\a:*>N.a (!b:*.b)");
+        t = new Sheet();
         t.comes("\\f:*>N.f N", 0, "\\a:*>N.a N").comes("\\f:(N>N)>N.f S", 0, "\\a:(N>N)>N.a S").comes("\\x:N.S x", 0, "\\a:N.S a").comes("\\x:N.S(S x)", 0, "\\a:N.S (S a)");
         t.comes("\\x:(N>N).x", 0, "\\a:N>N.a").comes("\\x:N.(N>N)", 0, "\\a:N.N>N").comes("\\x:(\\y:*.y)(N>N).(x)", 1, "\\a:N>N.a").comes("\\x:N.(\\y:N.(x))", 0, "\\a:N.\\b:N.a");
     }
@@ -680,6 +706,18 @@ public final class BoundaryTest extends Sheet {
             due("x is left", t.it.check(), UNBOUND);
             due("at its place", t.it.place(), had - 1);
         }
+    }
+
+    private static void moreOfEachByte() {
+        ProofLine x = new ProofLine();
+        for (int i = 0; i < 5; i++) {
+            x.type(0x20202020, 0x20202020, 0x20202020, 0x20202020, 0x20202020);
+        }
+        for (int sign = 1; sign <= 255; sign++) {
+            due("byte " + sign + " more than 100", refusesType(x, sign << 8 * (sign % 4)), true);
+        }
+        due("none more", refusesType(x, 0), false);
+        due("hundred", x.erase(), 100);
     }
 
     // ---- promise 3: "THE LINE is empty: how many it had."

@@ -8,8 +8,9 @@ import java.util.Map;
  * trees whose letters have names of their own, nothing cut off before its SIZE is looked at.
  */
 public final class ModelTest {
-    private static final int ROUNDS = 4000;
-    private static final int CALLS = 30;
+    private static final int ROUNDS = 16000;
+    // What an object answers behind its 512th call is free; a line takes at most 40 calls beside its output's.
+    private static final int CALLS = 512 - 40;
 
     // ---- the second program
 
@@ -445,6 +446,7 @@ public final class ModelTest {
         "\\x:*.\\y:*.\\p:!z:*.(x>y>z)>z.p x(\\a:x.\\b:y.a)", "\\n:N.!x:*.(x>x)>x>x", "\\p:N>*.\\q:p 20.\\r:p 19.q",
         "\\x:!a:*.(a>a)>a>a.x N S 0", "\\a:*.\\f:a>a.\\x:a.f(f(f x))", "(\\a:*.\\f:a>a.\\x:a.f(f x))(N>N)(\\f:N>N.\\x:N.f(f x))S 0",
         "\\p:N>*.\\x:p(S 2).\\f:p 3>N.f x", "!x:*.!y:x>*.!z:x.y z", "R(\\x:N.N)7(\\x:N.S)3", "(\\x:N.\\y:N.x)3 4",
+        "\\g:(N>N)>N>N.g(R(\\x:N.N)0(\\x:N.S))0", "\\g:((N>N>N)>N>N)>(N>N>N)>N>N.g(R(\\x:N.N)0)(\\x:N.S)0",
     };
 
     private long seed = 88172645463325252L;
@@ -571,6 +573,8 @@ public final class ModelTest {
     // ---- comparing
 
     private int wrong = 0;
+    private int calls = 0;
+    private String compared = "";
     private final int[] seen = new int[12];
     private final StringBuilder story = new StringBuilder();
 
@@ -580,8 +584,9 @@ public final class ModelTest {
         }
     }
 
-    private static void typeAll(ProofLine x, String text) {
+    private void typeAll(ProofLine x, String text) {
         for (int i = 0; i < text.length(); i += 20) {
+            calls++;
             int[] five = new int[5];
             for (int k = i; k < text.length() && k < i + 20; k++) {
                 five[(k - i) / 4] |= text.charAt(k) << 24 - 8 * (k % 4);
@@ -595,11 +600,24 @@ public final class ModelTest {
         due("names", x.count(0), m.terms.size());
         due("characters", x.count(1), m.output.length());
         due("size", x.count(2), m.size);
+        int some = below(m.output.length() + 1);
+        due("character " + some, x.output(some), some < m.output.length() ? m.output.charAt(some) : ' ');
+        calls += 6;
+        compareOutput(x, m);
+    }
+
+    /** All of it only where it is another one: an output costs many calls. */
+    private void compareOutput(ProofLine x, Model m) {
+        if (compared.equals(m.output) || calls + m.output.length() > CALLS) {
+            return;
+        }
         StringBuilder out = new StringBuilder();
-        for (int k = 0; k < x.count(1); k++) {
+        for (int k = 0; k < m.output.length(); k++) {
             out.append(x.output(k));
         }
         due("output", out.toString(), m.output);
+        compared = m.output;
+        calls += m.output.length();
     }
 
     private void tally(int answer) {
@@ -630,6 +648,7 @@ public final class ModelTest {
             compareState(x, m);
         }
         compareSame(x, m);
+        calls += 4;
     }
 
     private void compareSame(ProofLine x, Model m) {
@@ -655,7 +674,9 @@ public final class ModelTest {
             ProofLine x = new ProofLine();
             Model m = new Model();
             story.setLength(0);
-            for (int i = 0; i < CALLS; i++) {
+            compared = "";
+            calls = 0;
+            while (calls < CALLS) {
                 call(x, m);
             }
         }

@@ -137,10 +137,12 @@ public final class PromisesTest extends Sheet {
         t.faulty("()", -2, 1).faulty("(N", -2, 2).faulty("N)", -2, 1).faulty("(N))", -2, 3).faulty(")", -2, 0);
         t.faulty(">N", -2, 0).faulty("N>", -2, 2).faulty("N>>N", -2, 2).faulty("N> ", -2, 3).faulty("(N>)", -2, 3);
         t.faulty("\\", -2, 1).faulty("\\x", -2, 2).faulty("\\x:", -2, 3).faulty("\\x:N", -2, 4).faulty("\\x:N.", -2, 5);
+        t = new Sheet();
         t.faulty("!", -2, 1).faulty("!N:N.N", -2, 1).faulty("!x.N", -2, 2).faulty("!x:.N", -2, 3).faulty("!x:N:N", -2, 4);
         t.faulty("\\xy:N.N", -2, 2).faulty("\\1:N.N", -2, 1).faulty("N.N", -2, 1).faulty("(N.N)", -2, 2);
         t.faulty("S \\x:N.x", -2, 2).faulty("S!x:N.x", -2, 1).faulty("\\x:N)", -2, 4).faulty("\\x:(N.x", -2, 5);
         t.faulty("N:N", -2, 1).faulty("\\ x : N . )", -2, 10);
+        t = new Sheet();
         t.typed("\\x:N.x", "N>N").typed("  \\ x : N . x  ", "N>N").typed("((N))>(((N)))", "*");
         t.typed("\\x:!y:N.N.x 3", "(N>N)>N").typed("\\x:N.\\y:N>N.y x", "N>(N>N)>N");
         t.typed("N>!x:N.N", "*").typed("!x:*.x>x", "*").typed("\\x:(N).(S)(x)", "N>N").typed("S(S(S 0))", "N");
@@ -152,6 +154,7 @@ public final class PromisesTest extends Sheet {
         t.comes("0", 0, "0").comes("9", 0, "9").comes("10", 0, "10").comes("20", 0, "20").comes("05", 0, "5").comes("00", 0, "0");
         t.faulty("21", -2, 1).faulty("99", -2, 1).faulty("S 30", -2, 3).faulty(" 21", -2, 2).faulty("210", -2, 1);
         t.faulty("2 1", -5, 0).faulty("201", -5, 0).faulty("0021", -2, 3).faulty("0020", -5, 0).faulty("100", -5, 0);
+        t = new Sheet();
         t.comes("\\f:N>N>N.f 123", 0, "\\a:N>N>N.a 12 3").comes("\\f:N>N>N.f 1 2", 0, "\\a:N>N>N.a 1 2");
         t.comes("\\f:N>N>N.f 1217", 0, "\\a:N>N>N.a 12 17").faulty("\\f:N>N>N.f 1234", -2, 14);
         t.comes("\\f:N>N>N.f12 3", 0, "\\a:N>N>N.a 12 3").comes("\\f:N>N>N.f(1)2", 0, "\\a:N>N>N.a 1 2");
@@ -242,6 +245,7 @@ public final class PromisesTest extends Sheet {
         t.typed("R(\\x:N.N)0", "(N>N>N)>N>N").typed("R(\\x:N.N>N)", "(N>N)>(N>(N>N)>N>N)>N>N>N");
         t.typed("\\p:N>*.\\x:p 3.\\f:p(S 2)>N.f x", "!a:N>*.a 3>(a 3>N)>N");
         t.faulty("\\p:N>*.\\x:p 3.\\f:p(S 3)>N.f x", -6, 28);
+        t = new Sheet();
         t.typed("\\f:!x:*.x>x.f(N>N)S(f N 3)", "(!a:*.a>a)>N");
         t.typed("\\p:N>*.\\f:!n:N.p n.\\m:N.f(S m)", "!a:N>*.(!b:N.a b)>!c:N.a (S c)");
         t.typed("\\f:!x:N.N.\\g:(N>N)>N.g f", "(N>N)>((N>N)>N)>N");
@@ -351,6 +355,7 @@ public final class PromisesTest extends Sheet {
         t.comes("\\x:N.\\g:N>N.\\f:N>N>N.f 20(S(g 9))", 0, "\\a:N.\\b:N>N.\\c:N>N>N.c 20 (S (b 9))");
         due("size 79", t.it.count(2), 79);
         t.faultyNormal("\\x:N.\\g:N>N.\\f:N>N>N.f 20(S(g 10))");
+        t = new Sheet();
         // On the way: too big before it would be small again, and too big at its end.
         t.comes("(\\x:N.0)20", 1, "0").faultyNormal("(\\x:N.\\y:N.0)20 20").faultyNormal("\\f:N>N>N.(\\x:N.f x x)18");
         t.comes("\\f:N>N>N.(\\x:N.f x x)17", 1, "\\a:N>N>N.a 17 17");
@@ -367,6 +372,7 @@ public final class PromisesTest extends Sheet {
         t.comes("\\x:*.\\y:x>*.!z:x.y z", 0, "\\a:*.\\b:a>*.!c:a.b c").comes("\\x:N>N>N.x(x 1 2)3", 0, "\\a:N>N>N.a (a 1 2) 3");
         t.comes("\\x:(N>N)>N.x(\\y:N.y)", 0, "\\a:(N>N)>N.a (\\b:N.b)").comes("\\x:*>N.x(N>N)", 0, "\\a:*>N.a (N>N)");
         t.comes("\\x:*>N.x(!y:*.y)", 0, "\\a:*>N.a (!b:*.b)").comes("\\x:(N>N)>N.x S", 0, "\\a:(N>N)>N.a S");
+        t = new Sheet();
         t.comes("\\x:*>N.x N", 0, "\\a:*>N.a N").comes("\\x:N.S(S x)", 0, "\\a:N.S (S a)").comes("\\f:N>N.f(S(S 1))", 0, "\\a:N>N.a 3");
         t.comes("\\f:N>N.f(S 20)", 0, "\\a:N>N.a 21").comes("S(S(S(S(S(S(S(S(S(S(S 20))))))))))", 0, "31");
         t.comes("R(\\x:N.N)0(\\x:N.S)", 0, "R (\\a:N.N) 0 (\\a:N.S)").comes("!f:!x:*.x.N", 0, "(!a:*.a)>N");

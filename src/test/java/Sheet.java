@@ -1,4 +1,7 @@
-/** One ProofLine and what the tests ask of it. Each answer that is not due is printed and counted. */
+/**
+ * One ProofLine and what the tests ask of it. Each answer that is not due is printed and counted.
+ * What an object answers behind its 512th call is free: so long tests take a new sheet in between.
+ */
 class Sheet {
     private static int wrong = 0;
 
@@ -87,7 +90,8 @@ class Sheet {
 
     String out() {
         StringBuilder text = new StringBuilder();
-        for (int k = 0; k < it.count(1); k++) {
+        int length = it.count(1);
+        for (int k = 0; k < length; k++) {
             text.append(it.output(k));
         }
         return text.toString();

@@ -35,6 +35,7 @@ public final class PromisesTest extends Sheet {
         output();
         count();
         deepLines();
+        exampleOfTheReadme();
         end("all promises hold");
     }
 
@@ -481,5 +482,24 @@ public final class PromisesTest extends Sheet {
         t.comes(repeat("S(", 33) + "0" + repeat(")", 33), 0, "33").faulty("\\x:N." + repeat("x", 95), -5, 5);
         t.faultyNormal(repeat("S(", 32) + "20" + repeat(")", 32));
         t.typed(repeat("S(", 32) + "20" + repeat(")", 32), "N");
+    }
+
+    // ---- README.md
+
+    private static void exampleOfTheReadme() {
+        ProofLine line = new ProofLine();
+        due("typed", line.type(0x5C783A4E, 0x2E532078, 0, 0, 0), 8);
+        due("A is told", line.define(0), 0);
+        due("erased", line.erase(), 8);
+        due("typed", line.type(0x41203200, 0, 0, 0, 0), 3);
+        due("its type", line.check(), 1);
+        due("N", line.output(0), 'N');
+        due("steps", line.normal(), 2);
+        due("3", line.output(0), '3');
+        line.erase();
+        due("typed", line.type(0x41204E00, 0, 0, 0, 0), 3);
+        due("A N", line.check(), ProofLine.MISMATCH);
+        due("at N", line.place(), 2);
+        due("the output stays", line.output(0), '3');
     }
 }
